@@ -14,6 +14,7 @@ public final class DaysTest {
         when();
         kindFor();
         everyFor();
+        lastDays();
         due.end("DaysTest");
     }
 
@@ -192,12 +193,12 @@ public final class DaysTest {
         due.is("17 HENS lay", x.when(99), 25);
         x.change(0, 0, 4);
         due.is("17 below 0", x.when(0), 10);
+        // Both lay on DAY 100: 60, 40, 60 and 35.
         HourEggs last = new HourEggs();
-        last.egg(2, 99, 0);
         last.hen(0, 0, 20);
-        last.go(19);
-        last.hen(0, 0, 30);
-        due.is("17 0 is always reached", last.when(0), 0);
+        last.hen(1, 0, 25);
+        due.is("17 behind 100", last.when(195), 100);
+        due.is("17 not within 100", last.when(196), Due.NONE);
     }
 
     private static void kindFor() {
@@ -247,5 +248,39 @@ public final class DaysTest {
         // ROTTEN ones are worth less than none: best is that none is there then. With 16 the one of DAY 48 is gone.
         due.is("19 ROTTEN", x.everyFor(3, 10), 11);
         due.is("19 n 60", x.everyFor(3, 60), 16);
+    }
+
+    /** Beyond the calls that are promised, but there is no other way to the last DAYS. */
+    private static void lastDays() {
+        HourEggs x = new HourEggs();
+        for (int h = 0; h < 4; h++) {
+            x.hen(h, 0, 1);
+            x.hen(h, 1, 5);
+        }
+        for (int i = 0; i < 1666; i++) {
+            x.go(60);
+        }
+        due.is("12 SPOILED is 99999 at most", x.now(4), 99999);
+        due.is("14 but more spoil", x.spoils(100) > 100 ? 1 : 0, 1);
+        due.is("12 DAY", x.now(0), 99960);
+        due.is("11 above 99999", x.go(40), Due.STATE);
+        due.is("32 above 99999", x.foxes(20) >= 0 ? 1 : 0, 1);
+        due.is("32 above 99999", x.foxes(20), Due.STATE);
+        due.is("11 BEYOND first", x.go(61), Due.BEYOND);
+        due.is("11 to 99999", x.go(18), 8);
+        due.is("32 to 99999", x.foxes(1) >= 0 ? 1 : 0, 1);
+        due.is("12 DAY", x.now(0), 99999);
+        due.is("11 above 99999", x.go(1), Due.STATE);
+        due.is("32 above 99999", x.foxes(1), Due.STATE);
+        for (int h = 0; h < 4; h++) {
+            x.hen(h, 0, 0);
+        }
+        while (x.now(1) != 0) {
+            x.broken(Integer.numberOfTrailingZeros(x.now(1)));
+        }
+        x.egg(1, 50, 0);
+        due.is("13 DAY is 99999 at most", x.ahead(1), 49);
+        due.is("13 DAY is 99999 at most", x.ahead(2), 48);
+        due.is("15 DAY is 99999 at most", x.ripe(0), 0);
     }
 }

@@ -45,8 +45,8 @@ public final class NestsTest {
         due.is("27 the least of two", x.halves(), 3);
         due.is("28 apart", x.apart(), 7);
         x.broken(0);
-        due.is("27 of PLACES with EGGS", x.halves(), 4);
         due.is("28 20, 7 and 30", x.apart(), 3);
+        due.is("27 of PLACES with EGGS", x.halves(), 4);
         x.egg(4, 18, 0);
         // -3 with 30, and 20 with 7.
         due.is("27 with a ROTTEN one", x.halves(), 5);

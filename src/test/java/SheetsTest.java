@@ -190,11 +190,13 @@ public final class SheetsTest {
         x.egg(0, 20, 0);
         x.egg(0, 20, 0);
         x.egg(4, 30, 0);
+        x.egg(0, 50, 0);
+        x.egg(0, 40, 0);
         int[][] sheets = {
             {}, {0}, {3}, {0, 1, 2, 3}, {0, 2, 1, 3}, {1, 0}, {3, 1}, {0, 0}, {0, 1, 0}, {1, 2, 1},
-            {4}, {-1}, {8}, {0, 1, 5}, {FAR}, {0, Integer.MIN_VALUE}, {0, 32}, {0, 3, 2},
+            {6}, {-1}, {8}, {0, 1, 7}, {4, 5, 0}, {5, 4}, {FAR}, {0, Integer.MIN_VALUE}, {0, 32}, {0, 3, 2},
         };
-        int[] dues = {0, 0, 0, 0, 0, 2, 2, 2, 3, 3, 1, 1, 1, 3, 1, 2, 2, 3};
+        int[] dues = {0, 0, 0, 0, 0, 2, 2, 2, 3, 3, 1, 1, 1, 3, 0, 2, 1, 2, 2, 3};
         for (int i = 0; i < sheets.length; i++) {
             Due.sheet(x, 0, sheets[i]);
             due.is("44 sheet " + i, x.judge(0), dues[i]);

@@ -73,6 +73,10 @@ public final class TextsTest {
         due.is("WORTH", x.workOf(5, 2), 8);
         due.is("37 worth", Due.text(x, "work 5 1 worth 99"), 1);
         due.is("WORTH", x.workOf(5, 2), 99);
+        due.is("37 due 0 worth 0", Due.text(x, "work 5 0 due 0 worth 0"), 1);
+        due.is("NEED", x.workOf(5, 0), 0);
+        due.is("DUE", x.workOf(5, 1), 0);
+        due.is("WORTH", x.workOf(5, 2), 0);
         due.is("37 item by item", Due.text(x, "work 0 1 due 2 worth 3;work 0 4 worth 5;hen 0 1;hen 0 0"), 4);
         due.is("NEED", x.workOf(0, 0), 4);
         due.is("DUE", x.workOf(0, 1), 2);
@@ -104,6 +108,8 @@ public final class TextsTest {
             "work 0 1 due 4294967296", "work 0 1 worth 100", "work 0 1 worth 1 due 1", "work 0 1 due 1 due 1",
             "work 0 1 aged 1", "work 0 1 worth 1 worth 1", "egg 5,egg 5", "egg 99999999999999999999", "hen01", "work0",
             "work 0 1worth", "in 1", "aged 1", "due 1", "worth 1", "egg 5;x", "egg 5 #", "#", "egg# 5", "egg 5aged#",
+            "agg 5", "ten 0 1", "fork 0 1", "eggz 5", "egga 5", "egg{5", "egg`5", "egg 5:", "egg 5/", "egg 5\0",
+            "egg 5\0egg", "\0", "egg 5<", "egg 9;egg 90;egg 900", "egg\u00e9", "workdue 0 1",
         };
         int[] faults = {
             0, 3, 4, 0, 0, 0, 4, 4, 4, 4, 3, 0, 0,
@@ -114,6 +120,8 @@ public final class TextsTest {
             13, 15, 17, 15,
             9, 17, 5, 4, 5, 5,
             13, 0, 0, 0, 0, 6, 6, 0, 3, 9,
+            0, 0, 0, 0, 0, 3, 3, 5, 5, 5,
+            5, 0, 5, 17, 3, 0,
         };
         due.is("as many faults as texts", faults.length, texts.length);
         HourEggs x = new HourEggs();

@@ -29,6 +29,11 @@ public final class ToldTest {
         both("place -1", x, -1, Due.BEYOND, Due.BEYOND);
         x.egg(0, 1, 0);
         both("nothing told", x, 0, 100, 0);
+        due.is("30 sheet 4", x.ages(4, 0), Due.BEYOND);
+        due.is("31 sheet -1", x.youngest(-1, 0), Due.BEYOND);
+        x.change(0, 1, 99);
+        Due.sheet(x, 0, 0);
+        both("the oldest", x, 0, 1, 99);
         due.is("30 status", x.status(5), 2);
     }
 

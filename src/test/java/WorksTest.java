@@ -124,6 +124,7 @@ public final class WorksTest {
             x.work(w, 0, 40);
             x.work(w, 2, 99);
         }
+        due.is("23 told first", x.bestWorks(), 31);
         due.is("22 five of six", x.best(), 495);
         due.is("23 five of six, the least", x.bestWorks(), 31);
         x.work(5, 0, 0);
@@ -132,6 +133,18 @@ public final class WorksTest {
         x.change(0, 0, 4);
         due.is("22 four and one that is DONE", x.best(), 495);
         due.is("23 four and one that is DONE", x.bestWorks(), 47);
+    }
+
+    /** An EGG is laid on DAY 90, when DAY is 29 yet. */
+    private static HourEggs laidBehind61() {
+        HourEggs x = new HourEggs();
+        x.go(29);
+        x.hen(0, 0, 30);
+        x.hen(1, 0, 18);
+        x.work(0, 0, 60 + 30 + 60 + 42);
+        due.is("13 not behind 60", x.ahead(60) < 192 ? 1 : 0, 1);
+        due.is("13 behind 61", x.ahead(61), 192);
+        return x;
     }
 
     private static void soonest() {
@@ -163,6 +176,7 @@ public final class WorksTest {
         far.hen(0, 0, 30);
         far.work(0, 0, 60 + 30);
         due.is("24 behind 60", far.soonest(0), 60);
+        due.is("24 behind 61", laidBehind61().soonest(0), Due.NONE);
         far.go(30);
         far.work(1, 1, 29);
         due.is("24 DUE is gone by", far.soonest(1), Due.NONE);
