@@ -143,7 +143,7 @@ public final class HourEggs {
         }
     }
 
-    // ---- what will be: all of it is tried on another house
+    // ---- what will be (nothing changes): all of it is tried on another house
 
     public int ahead(int n) {
         if (!within(n, 0, LOOK_AHEAD)) {

@@ -8,7 +8,11 @@ public final class TextsTest {
         hensAndWorks();
         blanks();
         faults();
+        numbers();
+        ends();
+        eachWord();
         places();
+        fullTape();
         nothingChanges();
         due.end("TextsTest");
     }
@@ -132,6 +136,124 @@ public final class TextsTest {
         due.is("no finding", x.status(-1), 0);
     }
 
+    /** Each NUMBER just inside its bounds, at them, and just outside: then it is the FAULT. */
+    private static void numbers() {
+        number("egg ", "", 1, 99);
+        number("double ", " in 3", 1, 99);
+        number("egg 5 aged ", "", 0, 99);
+        number("egg 5 aged ", " in 2", 0, 99);
+        number("egg 5 in ", "", 0, 3);
+        number("egg 5 aged 9 in ", "", 0, 3);
+        number("hen ", " 1", 0, 3);
+        number("hen 3 ", "", 0, 30);
+        number("work ", " 1", 0, 5);
+        number("work 5 ", "", 0, 999);
+        number("work 5 1 due ", "", 0, 99999);
+        number("work 5 1 due ", " worth 1", 0, 99999);
+        number("work 5 1 worth ", "", 0, 99);
+        number("work 5 1 due 1 worth ", "", 0, 99);
+    }
+
+    private static void number(String ahead, String behind, int least, int most) {
+        int[] inside = {least, least + 1, most - 1, most};
+        for (int v : inside) {
+            String text = ahead + v + behind;
+            due.is("37 '" + text + "'", Due.text(new HourEggs(), text), 1);
+        }
+        String[] outside = {
+            least == 0 ? "-1" : "0", "" + (most + 1), "" + (most + 256), "99999", "100000", "165536", "4294967296",
+            "4294967297", "18446744073709551617", "x", ";", "", "#",
+        };
+        for (String v : outside) {
+            if (v.equals("99999") && most == 99999) {
+                continue;
+            }
+            String text = ahead + v + behind;
+            // Without a NUMBER it is what comes then, behind one blank more, or the end.
+            int fault = v.isEmpty() && behind.startsWith(" ") ? ahead.length() + 1 : ahead.length();
+            if (v.isEmpty() && behind.equals(" 1")) {
+                // Then 1 is the NUMBER, and the one behind it is not there.
+                fault = text.length();
+            }
+            HourEggs x = new HourEggs();
+            due.is("37 '" + text + "'", Due.text(x, text), -1 - fault);
+            due.is("37 nothing changes", x.count(1) + x.henOf(3, 0) + x.workOf(5, 0), 0);
+            due.is("48 THE TAPE is empty", x.count(5), 0);
+        }
+    }
+
+    /** A TEXT that ends too early, at each of its TOKENS. */
+    private static void ends() {
+        String[] texts = {"egg 5 aged 4 in 3", "hen 1 2", "work 1 2 due 3 worth 4", "egg 5 ; hen 1 2", "wind 5 in 0"};
+        String[][] whole = {{"egg 5", "egg 5 aged 4"}, {}, {"work 1 2", "work 1 2 due 3"}, {"egg 5"}, {"wind 5"}};
+        for (int i = 0; i < texts.length; i++) {
+            String[] tokens = texts[i].split(" ");
+            String text = "";
+            for (int k = 0; k + 1 < tokens.length; k++) {
+                text += (k > 0 ? " " : "") + tokens[k];
+                boolean isWhole = java.util.Arrays.asList(whole[i]).contains(text);
+                due.is("37 '" + text + "'", Due.text(new HourEggs(), text), isWhole ? 1 : -1 - text.length());
+                due.is("37 '" + text + "  '", Due.text(new HourEggs(), text + "  "), isWhole ? 1 : -3 - text.length());
+            }
+        }
+    }
+
+    /** Each WORD by one letter less, one more and another one. */
+    private static void eachWord() {
+        String[] words = {"egg", "leap", "warm", "borrowed", "rotten", "wind", "double"};
+        for (int kind = 0; kind < words.length; kind++) {
+            String word = words[kind];
+            HourEggs x = new HourEggs();
+            due.is("37 " + word, Due.text(x, word + "7"), 1);
+            due.is("37 KIND of " + word, x.of(0, 0), kind);
+            misspelt("", word, " 7");
+        }
+        misspelt("", "hen", " 1 1");
+        misspelt("", "work", " 1 1");
+        misspelt("egg 7 ", "aged", " 1");
+        misspelt("egg 7 ", "in", " 1");
+        misspelt("work 1 1 ", "due", " 1");
+        misspelt("work 1 1 ", "worth", " 1");
+    }
+
+    private static void misspelt(String ahead, String word, String behind) {
+        String[] others = {
+            word.substring(1), word.substring(0, word.length() - 1), word + "s", word + word.charAt(word.length() - 1),
+            word.charAt(0) + word, "x" + word.substring(1), word.substring(0, word.length() - 1) + "x", word + word,
+        };
+        due.is("37 '" + ahead + word + behind + "'", Due.text(new HourEggs(), ahead + word + behind), 1);
+        for (String other : others) {
+            String text = ahead + other + behind;
+            due.is("37 '" + text + "'", Due.text(new HourEggs(), text), -1 - ahead.length());
+        }
+        String great = ahead + word.toUpperCase() + behind;
+        due.is("37 '" + great + "'", Due.text(new HourEggs(), great), -1 - ahead.length());
+    }
+
+    /** TEXTS of 120 bytes, the last of which counts. */
+    private static void fullTape() {
+        String most = "hen 0 1;".repeat(14);
+        due.is("37 120 bytes", Due.text(new HourEggs(), most + "hen 1 30"), 15);
+        due.is("37 120 bytes, another one at the end", Due.text(new HourEggs(), most + "hen 1 3#"), -1 - 119);
+        due.is("37 120 bytes, too early an end", Due.text(new HourEggs(), most + "hen 1 1;"), -1 - 120);
+        due.is("37 120 bytes, a NUMBER too great", Due.text(new HourEggs(), most + "hen 1 31"), -1 - 118);
+        due.is("37 120 bytes, a WORD at the end", Due.text(new HourEggs(), most + "hen 1 1x"), -1 - 119);
+        due.is("37 120 bytes, blanks at the end", Due.text(new HourEggs(), most + "hen0 1  "), 15);
+        due.is("37 120 blanks", Due.text(new HourEggs(), " ".repeat(120)), -1 - 120);
+        HourEggs x = new HourEggs();
+        due.is("37 119 bytes", Due.text(x, most + "hen 1 3"), 15);
+        due.is("37 the last ITEM is so", x.henOf(1, 0), 3);
+        Due.feed(x, most + "hen 1 30egg 5");
+        due.is("35 what is FULL is not fed", x.count(5), 120);
+        due.is("49 FULL", x.status(1), 5);
+        due.is("37 as far as it was fed", x.text(), 15);
+        due.is("37 the last byte counts", x.henOf(1, 0), 30);
+        due.is("37 behind it THE TAPE takes again", x.feed('e', 1), 1);
+        due.is("36 it had", x.wipe(), 1);
+        due.is("36 it has none then", x.count(5), 0);
+        due.is("37 no ITEM", x.text(), -1);
+    }
+
     private static void places() {
         HourEggs x = new HourEggs();
         for (int i = 0; i < 6; i++) {
@@ -139,9 +261,20 @@ public final class TextsTest {
         }
         due.is("37 no PLACE", Due.text(x, "egg 5;egg 6;egg 700"), -1 - 12);
         due.is("37 two PLACES", Due.text(x, "egg 5;hen 0 1;egg 6"), 3);
+        due.is("37 none: it is the WORD, not what is behind it", Due.text(x, "wind#"), -1);
+        due.is("37 none: a TOKEN ahead of it is first", Due.text(x, "hen 4 1;egg 5"), -1 - 4);
         due.is("37 none, hens can", Due.text(x, "hen 0 2"), 1);
         due.is("37 none", Due.text(x, "hen 0 3; egg"), -1 - 9);
         due.is("EVERY", x.henOf(0, 0), 2);
+        HourEggs eight = new HourEggs();
+        due.is("37 eight", Due.text(eight, "egg 1;".repeat(7) + "egg 8"), 8);
+        due.is("the last one", eight.of(7, 1), 8);
+        due.is("37 nine", Due.text(new HourEggs(), "egg 1;".repeat(8) + "egg 9"), -1 - 48);
+        eight.broken(3);
+        due.is("37 two in one PLACE", Due.text(eight, "leap 2; warm 3"), -1 - 8);
+        due.is("37 neither is laid", eight.now(1), 247);
+        due.is("37 one in one PLACE", Due.text(eight, "leap 2"), 1);
+        due.is("37 it is laid there", eight.of(3, 0), 1);
     }
 
     private static void nothingChanges() {
